@@ -1,0 +1,242 @@
+/** Promises 2 to 5, and part II: tape, tokens, grammar, faults and their places. */
+final class TextTest {
+    public static void main(String[] args) {
+        tape();
+        readings();
+        tokens();
+        grammar();
+        room();
+        wrong();
+        values();
+        Check.finish();
+    }
+
+    private static void tape() {
+        BootHall x = new BootHall();
+        int blanks = 0x20202020;
+        for (int n = 1; n <= 100; n++) {
+            Check.due("feed " + n, x.feed(blanks, blanks, blanks, blanks, blanks), 20 * n);
+        }
+        Check.due("feed beyond 2000", x.feed(blanks, blanks, blanks, blanks, blanks), -1);
+        Check.due("tape stays", x.count(7), 2000);
+        Check.due("back(19)", x.back(19), 1981);
+        Check.due("feed above by one", x.feed(blanks, blanks, blanks, blanks, blanks), -1);
+        Check.due("back(1)", x.back(1), 1980);
+        Check.due("feed to the brim", x.feed(blanks, blanks, blanks, blanks, blanks), 2000);
+        Check.due("back(-1)", x.back(-1), -1);
+        Check.due("back(least)", x.back(Integer.MIN_VALUE), -1);
+        Check.due("back(2001)", x.back(2001), -1);
+        Check.due("back(most)", x.back(Integer.MAX_VALUE), -1);
+        Check.due("tape still", x.count(7), 2000);
+        Check.due("back(0)", x.back(0), 2000);
+        Check.due("read of 2000 blanks", x.read(0), 0);
+        Check.due("tape is empty", x.count(7), 0);
+        Check.due("back(1) of none", x.back(1), -1);
+        Check.due("back(0) of none", x.back(0), 0);
+    }
+
+    private static void readings() {
+        BootHall x = new BootHall();
+        Check.type(x, "file 0;");
+        Check.due("read(2)", x.read(2), -1);
+        Check.due("read(-1)", x.read(-1), -1);
+        Check.due("the tape stays", x.count(7), 7);
+        Check.due("read(1)", x.read(1), 0);
+        Check.due("rules of 0", x.count(2), 0);
+        Check.due("rules of 1", x.count(3), 1);
+        Check.due("a fault", Check.read(x, 1, "file 0; file"), 1);
+        Check.due("its place", x.place(), 12);
+        Check.due("tape empty behind a fault", x.count(7), 0);
+        Check.due("a fault changes nothing", x.count(3), 1);
+        Check.due("NONE leaves", x.read(7), -1);
+        Check.due("the place", x.place(), 12);
+        Check.due("in place of the one ahead", Check.read(x, 1, "file 1; file 2 if kind == 0; after 3 if 1 == 1;"), 0);
+        Check.due("place without fault", x.place(), -1);
+        Check.due("three rules", x.count(3), 3);
+        Check.due("an empty text", x.read(1), 0);
+        Check.due("no rules", x.count(3), 0);
+        x.file(1, -1);
+        x.file(1, -1);
+        x.machine(0, 0, 0);
+        Check.read(x, 0, "file 1;");
+        Check.due("told file", x.answer(0, 0, 0), 1);
+        Check.due("fault late in a text", Check.read(x, 0, "file 0; file 0; x"), 1);
+        Check.due("the old text answers", x.answer(0, 0, 0), 1);
+        Check.due("WRONG", Check.read(x, 0, "file 0; file 6;"), 5);
+        Check.due("the old text answers still", x.answer(0, 0, 0), 1);
+    }
+
+    private static void fault(String text, int number, int place) {
+        BootHall x = new BootHall();
+        Check.due("read of '" + text + "'", Check.read(x, 0, text), number);
+        Check.due("place of '" + text + "'", x.place(), place);
+        Check.due("rules of '" + text + "'", number == 0 || x.count(2) == 0, true);
+    }
+
+    private static void fine(String text) {
+        fault(text, 0, -1);
+    }
+
+    private static void tokens() {
+        fine("");
+        fine(" \t\n\r");
+        fine("file0;");
+        fine("file\t0\n;\r");
+        fine("file 0if kind==1;");
+        fine("file 0005;");
+        fault("file 00005;", 1, 5);
+        fault("file 12345", 1, 5);
+        fine("file 0 if 9999<9999;");
+        fault("file 0 if 1 < 10000;", 1, 14);
+        fault("filefile 0;", 1, 0);
+        fault("abcdefghi", 1, 0);
+        fault("file 0 if kindkindkind == 1;", 1, 10);
+        fault("file 0 if xxxxkind == 1;", 1, 10);
+        fault("file 0 if kinds == 1;", 1, 10);
+        fault("File 0;", 1, 0);
+        fault("\u0000file 0;", 1, 0);
+        fault("file 0;\u00ff", 1, 7);
+        fault("file\u000b0;", 1, 4);
+        fault("file 0;.", 1, 7);
+        fault("file 0 if kind = 1;", 1, 15);
+        fault("file 0 if kind ! 1;", 1, 15);
+        fault("file 0 if kind === 1;", 1, 17);
+        fault("file 0 if kind <== 1;", 1, 17);
+        fault("file 0 if kind =! 1;", 1, 15);
+        fault("file 0 if kind > 1;", 1, 15);
+        fault("file 0 if kind == -1;", 1, 18);
+        fault("file 0 if kind < = 1;", 1, 17);
+        fine("file 0 if kind<=1;");
+        fine("file 0 if kind!=1;");
+        fault("file 0 if kind == 1 =", 1, 20);
+        fault("file 0 if kind !", 1, 15);
+    }
+
+    private static void grammar() {
+        fault("file", 1, 4);
+        fault("file  ", 1, 6);
+        fault("file 0", 1, 6);
+        fault("file 0 if", 1, 9);
+        fault("file 0 if;", 1, 9);
+        fault("file 0 if kind;", 1, 14);
+        fault("file 0 if kind == ;", 1, 18);
+        fault("file 0 if kind == 1", 1, 19);
+        fault("file 0 if kind == 1 == 1;", 1, 20);
+        fault("file 0 if (kind == 1);", 1, 16);
+        fault("file 0 if (kind) == 1);", 1, 21);
+        fault("file 0 if (kind;", 1, 15);
+        fault("file 0 if (kind", 1, 15);
+        fault("file 0 if () == 1;", 1, 11);
+        fault("file 0 if kind and 1 == 1;", 1, 15);
+        fault("file 0 if kind == 1 and;", 1, 23);
+        fault("file 0 if kind == 1 or or 1 == 1;", 1, 23);
+        fault("file 0 if kind kind == 1;", 1, 15);
+        fault("file 0 if kind (1) == 1;", 1, 15);
+        fault("file 0 if kind == 1 if 1 == 1;", 1, 20);
+        fault("file if kind == 1;", 1, 5);
+        fault("file kind;", 1, 5);
+        fault("file (0);", 1, 5);
+        fault("file 0 0;", 1, 7);
+        fault(";", 1, 0);
+        fault("file 0;;", 1, 7);
+        fault("if kind == 1;", 1, 0);
+        fault("after 0;", 1, 7);
+        fault("after 0", 1, 7);
+        fault("after;", 1, 5);
+        fault("after 0 file 0;", 1, 8);
+        fine("after 3 if 1 == 1;");
+        fine("file 5;file 4 if kind+place-mark*tries==bad*(begun-tick);after 0 if ((1))<2 or 1<2 and 2<=2;");
+        fault("file 0 if file == 1;", 1, 10);
+        fault("file 0 if and == 1;", 1, 10);
+        fault("file 0 if 1 + + 1 == 2;", 1, 14);
+        fault("file 0 if * 1 == 2;", 1, 10);
+        fault("file 0 if 1 == 2 ) ;", 1, 17);
+    }
+
+    private static String times(String part, int n) {
+        return part.repeat(n);
+    }
+
+    private static void room() {
+        fine("file 0 if ((((((1)))))) == 1;");
+        fault("file 0 if (((((((1))))))) == 1;", 2, 16);
+        fine("file 0 if ((((((1)))))) == ((((((1))))));");
+        fine("file 0 if ((((((1))))) + (1)) == 1;");
+        fault("file 0 if ((((((1) + (1))))) + (((((((1)))))) == 1;", 2, 36);
+        fault("file 0 if ((((((1(", 1, 17);
+        fault("file 0 if (((((( ( x", 2, 17);
+        fine(times("file 0;", 20));
+        fault(times("file 0;", 20) + " file", 2, 141);
+        fault(times("file 0;", 20) + "after x", 2, 140);
+        fault(times("file 0;", 20) + "x", 1, 140);
+        fault(times("file 0;", 20) + "12345", 1, 140);
+        fault(times("file 0;", 19) + "after 0 if 1 < 2; file 0;", 2, 151);
+        // 6 tokens ahead of the sums, 2 a sum, then a ';'.
+        String begin = "file 0 if 1<1";
+        String exact = "file 0;" + begin + times("+1", 195) + ";";
+        fine(exact + "  ");
+        fault(exact + " file", 2, exact.length() + 1);
+        fault(exact + " ;", 1, exact.length() + 1);
+        String full = begin + times("+1", 197);
+        fault(full, 1, full.length());
+        fault(full + ";", 2, full.length());
+        fault(full + "+1;", 2, full.length());
+        fault(full + " x", 1, full.length() + 1);
+        fault(full + " )", 1, full.length() + 1);
+        fault(full + "=", 1, full.length());
+        fault(begin + times("+1", 196) + "; file 0;", 2, begin.length() + 399);
+        fault(begin + times("+1", 196) + "; ;", 1, begin.length() + 394);
+        // a WRONG one ahead gives way to any fault of the other kinds.
+        fault("file 6; " + times("file 0;", 20), 2, 8 + 133);
+        fault("file 6; x", 1, 8);
+    }
+
+    private static void wrong() {
+        fine("file 5;");
+        fault("file 6;", 5, 5);
+        fault("file 9999;", 5, 5);
+        fine("after 3 if 1 == 1;");
+        fault("after 4 if 1 == 1;", 5, 6);
+        fault("file 0; after 5 if 1 == 1; file 7;", 5, 14);
+        fault("file 0; file  7; after 5 if 1 == 1;", 5, 14);
+        fine("file 0 if 7 < 8;");
+    }
+
+    private static void holds(String condition, boolean want) {
+        BootHall x = new BootHall();
+        x.file(1, -1);
+        x.machine(3, 7, 99);
+        Check.due("read of " + condition, Check.read(x, 0, "file 0 if " + condition + ";"), 0);
+        Check.due(condition, x.answer(0, 0, 7), want ? 0 : -1);
+    }
+
+    private static void values() {
+        holds("1 + 2 * 3 == 7", true);
+        holds("(1 + 2) * 3 == 9", true);
+        holds("10 - 3 - 2 == 5", true);
+        holds("10 - (3 - 2) == 9", true);
+        holds("2 * 3 + 4 * 5 - 6 == 20", true);
+        holds("1 - 2 < 0", true);
+        holds("0 < 1 - 2", false);
+        holds("1 < 1", false);
+        holds("1 <= 1", true);
+        holds("2 <= 1", false);
+        holds("1 != 2", true);
+        holds("1 != 1", false);
+        holds("1 == 1 or 1 == 1 and 1 == 2", true);
+        holds("1 == 2 and 1 == 1 or 1 == 1", true);
+        holds("1 == 2 and 1 == 1 or 1 == 2 and 1 == 1", false);
+        holds("1 == 1 and 1 == 1 and 1 == 1", true);
+        holds("1 == 1 and 1 == 1 and 1 == 2", false);
+        holds("1 == 2 or 1 == 2 or 1 == 1", true);
+        holds("kind == 3 and place == 7 and mark == 99", true);
+        holds("tick == 7 and begun == 1 and bad == 0", true);
+        // 65536 * 32768 wraps to the least int, 65536 * 65536 to 0.
+        holds("256 * 256 * 256 * 128 < 0", true);
+        holds("256 * 256 * 256 * 256 == 0", true);
+        holds("256 * 256 * 256 * 128 - 1 == 256 * 256 * 256 * 127 + 256 * 256 * 256 - 1", true);
+        holds("0 - 256 * 256 * 256 * 128 < 0", true);
+        holds("1*(2*(3*(4*(5*(6+1)-1)-1)-1)-1)==1*(2*(3*(4*(5*(6+1)-1)-1)-1)-1)", true);
+        holds("1*(2*(3*(4*(5*(6+1)-1)-1)-1)-1)==807", true);
+    }
+}
