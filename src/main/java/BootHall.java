@@ -613,7 +613,7 @@ public final class BootHall {
             switch (scanner.sort) {
                 case CLOSE:
                     emitDownTo(1);
-                    pending--;
+                    pending = Math.max(0, pending - 1);
                     open--;
                     break;
                 case SEMICOLON:

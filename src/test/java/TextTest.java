@@ -238,5 +238,10 @@ final class TextTest {
         holds("0 - 256 * 256 * 256 * 128 < 0", true);
         holds("1*(2*(3*(4*(5*(6+1)-1)-1)-1)-1)==1*(2*(3*(4*(5*(6+1)-1)-1)-1)-1)", true);
         holds("1*(2*(3*(4*(5*(6+1)-1)-1)-1)-1)==807", true);
+        // as deep as both stacks ever get
+        String deep = times("1+1*(", 6) + "1+1*2" + times(")", 6);
+        holds("1 == 2 or 1 == 1 and 9 == " + deep, true);
+        holds("1 == 2 or 1 == 1 and 8 == " + deep, false);
+        holds("1 == 2 or 1 == 1 and " + deep + " < 9 + " + deep, true);
     }
 }
