@@ -23,6 +23,8 @@ public final class BootHall {
     private static final int MOST_WIDTH = 8;
     private static final int TICKS = 300;
     private static final int MOST_STEP = 20;
+    // Above the cost of any plan, which is some six million.
+    private static final int NO_COST = 1000000000;
     private static final int WHATS = 10;
 
     private static final int TAPE_ROOM = 2000;
@@ -281,7 +283,7 @@ public final class BootHall {
         }
         int choices = 1 << (2 * KINDS);
         int best = 0;
-        int bestCost = Integer.MAX_VALUE;
+        int bestCost = NO_COST;
         int bestEnd = TICKS;
         for (int choice = 0; choice < choices; choice++) {
             if (hall.setWakes(choice, s)) {

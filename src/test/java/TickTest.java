@@ -19,39 +19,8 @@ final class TickTest {
         Check.finish();
     }
 
-    /** A hall of so many machines of kind 0 that all load file 0. */
-    private static BootHall simple(int machines, int blocks) {
-        BootHall x = new BootHall();
-        for (int i = 0; i < machines; i++) {
-            x.machine(0, i, i);
-        }
-        x.file(blocks, -1);
-        Check.read(x, 0, "file 0;");
-        return x;
-    }
-
-    private static int[] all(BootHall x, int machine, int tick) {
-        int[] answers = new int[10];
-        for (int what = 0; what < 10; what++) {
-            answers[what] = x.state(machine, tick, what);
-        }
-        return answers;
-    }
-
-    private static int[] log(BootHall x, int machine) {
-        int n = 0;
-        while (x.log(machine, n) != -1) {
-            n++;
-        }
-        int[] changes = new int[n];
-        for (int i = 0; i < n; i++) {
-            changes[i] = x.log(machine, i);
-        }
-        return changes;
-    }
-
     private static void wrongInputs() {
-        BootHall x = simple(2, 1);
+        BootHall x = Halls.simple(2, 1);
         int[] outside = {-1, Integer.MIN_VALUE, Integer.MAX_VALUE, 300};
         for (int bad : outside) {
             Check.due("state of machine " + bad, x.state(bad, 0, 0), -1000000);
@@ -74,9 +43,9 @@ final class TickTest {
     private static void asking() {
         BootHall x = new BootHall();
         x.machine(0, 0, 0);
-        Check.due("no answer", log(x, 0), 1, 305);
-        Check.due("rescue 1", all(x, 0, 30), 5, -1, -1, -1, 1, 5, 0, 0, 1, 0);
-        Check.due("waits", all(x, 0, 29), 1, -1, -1, -1, 0, 4, 0, 0, 1, 0);
+        Check.due("no answer", Halls.log(x, 0), 1, 305);
+        Check.due("rescue 1", Halls.all(x, 0, 30), 5, -1, -1, -1, 1, 5, 0, 0, 1, 0);
+        Check.due("waits", Halls.all(x, 0, 29), 1, -1, -1, -1, 0, 4, 0, 0, 1, 0);
         int[] tries = {1, 1, 2, 2, 2, 2, 3, 3, 3, 3, 3, 3, 3, 3, 4};
         for (int t = 0; t < tries.length; t++) {
             Check.due("tries at " + t, x.state(0, t, 5), tries[t]);
@@ -85,7 +54,7 @@ final class TickTest {
         Check.due("up", x.up(), 0);
         x.file(1, -1);
         Check.read(x, 0, "file 0 if tries == 4;");
-        Check.due("told by tries", log(x, 0), 1, 302, 313, 334);
+        Check.due("told by tries", Halls.log(x, 0), 1, 302, 313, 334);
         Check.due("TRIES stay", x.state(0, 299, 5), 4);
         Check.read(x, 0, "file 0 if tries == 0; file 1 if tick == 14;");
         x.down(0, 0, 1);
@@ -170,14 +139,14 @@ final class TickTest {
         x.machine(1, 1, 0);
         x.file(2, -1);
         Check.read(x, 0, "file 0; after 0 if kind == 1; after 1 if place == 1;");
-        Check.due("server", log(x, 1), 2, 23, 54);
-        Check.due("client behind it", log(x, 0), 1, 62, 83, 114);
-        Check.due("behind its own kind, others than itself", log(x, 2), 1, 122, 143, 174);
+        Check.due("server", Halls.log(x, 1), 2, 23, 54);
+        Check.due("client behind it", Halls.log(x, 0), 1, 62, 83, 114);
+        Check.due("behind its own kind, others than itself", Halls.log(x, 2), 1, 122, 143, 174);
         Check.due("waiting is no try", x.state(2, 11, 5), 0);
         x.cut(1, 6);
-        Check.due("server cut while one would ask", log(x, 0), 1, 152, 173, 204);
+        Check.due("server cut while one would ask", Halls.log(x, 0), 1, 152, 173, 204);
         x.wake(0, 299);
-        Check.due("waits to the end", log(x, 0), 1);
+        Check.due("waits to the end", Halls.log(x, 0), 1);
         Check.due("no end", x.ends(), -1);
         Check.read(x, 0, "file 0 if kind == 0; after 0 if 1 == 1;");
         x.wake(0, 0);
@@ -250,7 +219,7 @@ final class TickTest {
     }
 
     private static void lettersLost() {
-        BootHall x = simple(2, 2);
+        BootHall x = Halls.simple(2, 2);
         x.lose(0, 1);
         Check.due("lost: none kept", x.state(0, 1, 2), 0);
         Check.due("lost: a miss", x.state(0, 1, 7), 1);
@@ -263,7 +232,7 @@ final class TickTest {
     }
 
     private static void wrongBlocks() {
-        BootHall x = simple(1, 2);
+        BootHall x = Halls.simple(1, 2);
         x.lose(0, 1);
         x.spoil(0, 0, 2);
         Check.due("a wrong one leaves MISSES", x.state(0, 2, 7), 1);
@@ -277,11 +246,11 @@ final class TickTest {
         x.spoil(0, 1, 5);
         Check.due("three bad", x.state(0, 6, 0), 3);
         x.spoil(0, 1, 6);
-        Check.due("four bad", all(x, 0, 6), 5, -1, -1, -1, 3, 0, 4, 0, 1, 0);
+        Check.due("four bad", Halls.all(x, 0, 6), 5, -1, -1, -1, 3, 0, 4, 0, 1, 0);
         x.lose(0, 4);
         Check.due("lost ones are no wrong ones", x.state(0, 6, 6), 3);
         Check.due("so it goes on", x.state(0, 7, 0), 3);
-        Check.due("log", log(x, 0), 2, 73, 104);
+        Check.due("log", Halls.log(x, 0), 2, 73, 104);
     }
 
     private static void lateTold() {
@@ -310,20 +279,20 @@ final class TickTest {
     }
 
     private static void misses() {
-        BootHall x = simple(1, 2);
+        BootHall x = Halls.simple(1, 2);
         for (int t = 2; t < 13; t++) {
             x.lose(0, t);
         }
         Check.due("eleven", x.state(0, 12, 7), 11);
         Check.due("goes on", x.state(0, 13, 0), 3);
         x.lose(0, 13);
-        Check.due("twelve", all(x, 0, 13), 5, -1, -1, -1, 4, 0, 0, 12, 1, 0);
+        Check.due("twelve", Halls.all(x, 0, 13), 5, -1, -1, -1, 4, 0, 0, 12, 1, 0);
         Check.due("stays", x.state(0, 299, 4), 4);
         Check.due("ends", x.ends(), 13);
         x.cut(0, 20);
-        Check.due("cut out of rescue", all(x, 0, 20), 0, -1, -1, -1, 0, 0, 0, 0, 1, 0);
+        Check.due("cut out of rescue", Halls.all(x, 0, 20), 0, -1, -1, -1, 0, 0, 0, 0, 1, 0);
         Check.due("and up", x.up(), 1);
-        Check.due("log", log(x, 0), 2, 135, 200, 232, 253, 284);
+        Check.due("log", Halls.log(x, 0), 2, 135, 200, 232, 253, 284);
     }
 
     private static void chains() {
@@ -333,18 +302,18 @@ final class TickTest {
         x.file(2, 2);
         x.file(3, -1);
         Check.read(x, 0, "file 0;");
-        Check.due("chain 1", all(x, 0, 0), 2, 0, 0, -1, 0, 0, 0, 0, 1, 1);
-        Check.due("chain 2", all(x, 0, 1), 2, 1, 0, -1, 0, 0, 0, 0, 1, 2);
-        Check.due("chain 3", all(x, 0, 3), 2, 2, 0, -1, 0, 0, 0, 0, 1, 3);
-        Check.due("installs", all(x, 0, 6), 3, 2, 0, -1, 0, 0, 0, 0, 1, 3);
-        Check.due("writes", all(x, 0, 7), 3, 2, 1, -1, 0, 0, 0, 0, 1, 3);
-        Check.due("all written", all(x, 0, 9), 3, 2, 3, -1, 0, 0, 0, 0, 1, 3);
-        Check.due("up", all(x, 0, 10), 4, -1, -1, 2, 0, 0, 0, 0, 1, 0);
-        Check.due("log", log(x, 0), 2, 63, 104);
+        Check.due("chain 1", Halls.all(x, 0, 0), 2, 0, 0, -1, 0, 0, 0, 0, 1, 1);
+        Check.due("chain 2", Halls.all(x, 0, 1), 2, 1, 0, -1, 0, 0, 0, 0, 1, 2);
+        Check.due("chain 3", Halls.all(x, 0, 3), 2, 2, 0, -1, 0, 0, 0, 0, 1, 3);
+        Check.due("installs", Halls.all(x, 0, 6), 3, 2, 0, -1, 0, 0, 0, 0, 1, 3);
+        Check.due("writes", Halls.all(x, 0, 7), 3, 2, 1, -1, 0, 0, 0, 0, 1, 3);
+        Check.due("all written", Halls.all(x, 0, 9), 3, 2, 3, -1, 0, 0, 0, 0, 1, 3);
+        Check.due("up", Halls.all(x, 0, 10), 4, -1, -1, 2, 0, 0, 0, 0, 1, 0);
+        Check.due("log", Halls.log(x, 0), 2, 63, 104);
         x.file(1, 0);
         Check.read(x, 0, "file 3;");
-        Check.due("three are well", all(x, 0, 3), 2, 1, 1, -1, 0, 0, 0, 0, 1, 3);
-        Check.due("a fourth is not", all(x, 0, 4), 5, -1, -1, -1, 5, 0, 0, 0, 1, 0);
+        Check.due("three are well", Halls.all(x, 0, 3), 2, 1, 1, -1, 0, 0, 0, 0, 1, 3);
+        Check.due("a fourth is not", Halls.all(x, 0, 4), 5, -1, -1, -1, 5, 0, 0, 0, 1, 0);
         x.file(1, 5);
         Check.read(x, 0, "file 4;");
         Check.due("no such file", x.state(0, 1, 4), 5);
@@ -354,32 +323,32 @@ final class TickTest {
     }
 
     private static void cuts() {
-        BootHall x = simple(1, 3);
+        BootHall x = Halls.simple(1, 3);
         x.file(2, -1);
         Check.read(x, 0, "file 0 if begun < 2; file 1 if 2 <= begun;");
-        Check.due("plain", log(x, 0), 2, 33, 74);
+        Check.due("plain", Halls.log(x, 0), 2, 33, 74);
         x.cut(0, 6);
-        Check.due("cut while it writes", all(x, 0, 6), 0, -1, -1, -1, 0, 0, 0, 0, 1, 0);
+        Check.due("cut while it writes", Halls.all(x, 0, 6), 0, -1, -1, -1, 0, 0, 0, 0, 1, 0);
         Check.due("off for three", x.state(0, 8, 0), 0);
-        Check.due("begins", all(x, 0, 9), 2, 1, 0, -1, 0, 0, 0, 0, 2, 1);
-        Check.due("log", log(x, 0), 2, 33, 60, 92, 113, 144);
+        Check.due("begins", Halls.all(x, 0, 9), 2, 1, 0, -1, 0, 0, 0, 0, 2, 1);
+        Check.due("log", Halls.log(x, 0), 2, 33, 60, 92, 113, 144);
         x.cut(0, 8);
         Check.due("cut while off", x.state(0, 10, 0), 0);
         Check.due("begins three behind", x.state(0, 11, 8), 2);
         x.cut(0, 20);
         Check.due("the disk stays", x.state(0, 20, 3), 1);
         Check.read(x, 0, "file 1 if begun < 3; file 0 if 3 <= begun;");
-        Check.due("the old image stays while the new is written", all(x, 0, 29), 3, 0, 3, 1, 0, 0, 0, 0, 3, 1);
+        Check.due("the old image stays while the new is written", Halls.all(x, 0, 29), 3, 0, 3, 1, 0, 0, 0, 0, 3, 1);
         Check.due("and is replaced when it is whole", x.state(0, 30, 3), 0);
         x.cut(0, 30);
         Check.due("cut in the tick in which it would be whole", x.state(0, 299, 3), 0);
         Check.due("not before", x.state(0, 30, 3), 1);
-        BootHall y = simple(1, 1);
+        BootHall y = Halls.simple(1, 1);
         y.cut(0, 0);
         y.wake(0, 1);
-        Check.due("cut ahead of the wake", log(y, 0), 32, 43, 64);
+        Check.due("cut ahead of the wake", Halls.log(y, 0), 32, 43, 64);
         y.wake(0, 5);
-        Check.due("wake behind it", log(y, 0), 52, 63, 84);
+        Check.due("wake behind it", Halls.log(y, 0), 52, 63, 84);
         Check.due("begun once", y.state(0, 299, 8), 1);
         y.lose(0, 5);
         y.lose(0, 8);
@@ -394,7 +363,7 @@ final class TickTest {
     }
 
     private static void ends() {
-        BootHall x = simple(2, 1);
+        BootHall x = Halls.simple(2, 1);
         Check.due("ends", x.ends(), 3);
         Check.due("up", x.up(), 3);
         x.cut(1, 290);
@@ -404,17 +373,17 @@ final class TickTest {
         x.cut(1, 294);
         Check.due("never", x.ends(), -1);
         Check.due("up but one", x.up(), 1);
-        Check.due("log", log(x, 1), 2, 13, 34, 2900, 2972, 2983);
+        Check.due("log", Halls.log(x, 1), 2, 13, 34, 2900, 2972, 2983);
         x.cut(0, 299);
         Check.due("up none", x.up(), 0);
-        Check.due("log's last", log(x, 0), 2, 13, 34, 2990);
+        Check.due("log's last", Halls.log(x, 0), 2, 13, 34, 2990);
     }
 
     private static void wakes() {
-        BootHall x = simple(2, 1);
+        BootHall x = Halls.simple(2, 1);
         x.wake(0, 299);
-        Check.due("wakes late", log(x, 0), 2992);
-        Check.due("off ahead", all(x, 0, 298), 0, -1, -1, -1, 0, 0, 0, 0, 0, 0);
+        Check.due("wakes late", Halls.log(x, 0), 2992);
+        Check.due("off ahead", Halls.all(x, 0, 298), 0, -1, -1, -1, 0, 0, 0, 0, 0, 0);
         x.wake(0, 296);
         Check.due("just in time", x.ends(), 299);
         x.wake(0, 297);
