@@ -16,6 +16,7 @@ final class FaceTest {
 
     public static void main(String[] args) throws Exception {
         face();
+        classesInside();
         newObject();
         source();
         Check.finish();
@@ -46,6 +47,37 @@ final class FaceTest {
         Check.due("constructors", constructors.length, 1);
         Check.due("its parameters", constructors[0].getParameterCount(), 0);
         Check.due("NONE", BootHall.NONE, -1);
+    }
+
+    // LANGUAGE.md, rules 1, 2, 5 and 11, as far as the compiled classes show them
+    private static void classesInside() {
+        Class<?>[] inside = BootHall.class.getDeclaredClasses();
+        Check.due("at most twelve classes", inside.length < 12, true);
+        looksWell(BootHall.class);
+        for (Class<?> type : inside) {
+            Check.due(type + " is static", Modifier.isStatic(type.getModifiers()), true);
+            Check.due(type + " is not open", Modifier.isPublic(type.getModifiers()) || Modifier.isProtected(type.getModifiers()), false);
+            Check.due(type + " has none inside", type.getDeclaredClasses().length, 0);
+            looksWell(type);
+        }
+    }
+
+    private static void looksWell(Class<?> type) {
+        int fields = 0;
+        for (Field f : type.getDeclaredFields()) {
+            if (Modifier.isStatic(f.getModifiers())) {
+                Check.due(f + " is final", Modifier.isFinal(f.getModifiers()), true);
+            } else {
+                fields++;
+            }
+        }
+        Check.due(type + " has at most twenty fields", fields <= 20, true);
+        for (Method m : type.getDeclaredMethods()) {
+            Check.due(m + " has at most seven parameters", m.getParameterCount() <= 7, true);
+            if (Modifier.isPrivate(m.getModifiers())) {
+                Check.due(m + " bears a name of its own", java.util.Arrays.stream(METHODS).anyMatch(face -> face.contains(" " + m.getName() + "(")), false);
+            }
+        }
     }
 
     private static void newObject() {

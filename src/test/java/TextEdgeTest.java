@@ -240,10 +240,10 @@ final class TextEdgeTest {
             for (int i = 0; i < 12; i++) {
                 Check.due(text, Check.read(x, 0, text), 1);
             }
+            Check.due("behind " + text, Check.read(x, 0, "file 0 if 2 + 3 * ((((((kind)))))) == 15 or mark < 99;"), 0);
+            Check.due("it does not hold", x.answer(0, 0, 0), -1);
             Check.due("behind " + text, Check.read(x, 0, "file 0 if 2 + 3 * ((((((kind)))))) == 11 and mark < 100;"), 0);
             Check.due("it holds", x.answer(0, 0, 0), 0);
-            Check.due("behind " + text, Check.read(x, 0, "file 0 if 2 + 3 * ((((((kind)))))) == 15 or mark < 99;"), 0);
-            Check.due("it does not", x.answer(0, 0, 0), -1);
             Check.due("no REL yet", Check.read(x, 0, "file 0 if kind;"), 1);
         }
     }
