@@ -41,20 +41,6 @@ final class TextEdgeTest {
         Check.finish();
     }
 
-    private static void fault(String text, int number, int place) {
-        BootHall x = new BootHall();
-        Check.due("read of '" + text + "'", Check.read(x, 0, text), number);
-        Check.due("place of '" + text + "'", x.place(), place);
-        Check.due("tape behind '" + text + "'", x.count(7), 0);
-        if (number != 0) {
-            Check.due("rules behind '" + text + "'", x.count(2), 0);
-        }
-    }
-
-    private static void fine(String text) {
-        fault(text, 0, -1);
-    }
-
     private static void feedBlanks(BootHall x, int times) {
         for (int i = 0; i < times; i++) {
             x.feed(BLANKS, BLANKS, BLANKS, BLANKS, BLANKS);
@@ -275,15 +261,15 @@ final class TextEdgeTest {
         Check.due("2000 bytes", x.count(7), 2000);
         Check.due("read", x.read(0), 0);
         Check.due("its last rule", x.answer(0, 0, 0), 0);
-        fault(" ".repeat(1994) + "file 0", 1, 2000);
-        fault(" ".repeat(1999) + "?", 1, 1999);
-        fault("?" + " ".repeat(1999), 1, 0);
-        fault(" ".repeat(1999) + "=", 1, 1999);
-        fault("file 0 if 1 <" + " ".repeat(1987), 1, 2000);
-        fault("file 0 if 1 " + " ".repeat(1987) + "<", 1, 2000);
-        fault("a".repeat(2000), 1, 0);
-        fault("file " + "0".repeat(1995), 1, 5);
-        fine(" ".repeat(2000));
+        Texts.fault(" ".repeat(1994) + "file 0", 1, 2000);
+        Texts.fault(" ".repeat(1999) + "?", 1, 1999);
+        Texts.fault("?" + " ".repeat(1999), 1, 0);
+        Texts.fault(" ".repeat(1999) + "=", 1, 1999);
+        Texts.fault("file 0 if 1 <" + " ".repeat(1987), 1, 2000);
+        Texts.fault("file 0 if 1 " + " ".repeat(1987) + "<", 1, 2000);
+        Texts.fault("a".repeat(2000), 1, 0);
+        Texts.fault("file " + "0".repeat(1995), 1, 5);
+        Texts.fine(" ".repeat(2000));
     }
 
     // "blanks (9, 10, 13, 32) between or not"
@@ -291,16 +277,16 @@ final class TextEdgeTest {
         int[] blanks = {9, 10, 13, 32};
         for (int b : blanks) {
             String blank = String.valueOf((char) b);
-            fine("file" + blank + "0;");
-            fine(blank + "file 0 " + blank + "if kind" + blank + "==" + blank + "(1);" + blank);
-            fault("fi" + blank + "le 0;", 1, 0);
-            fault("file 0 if kind =" + blank + "= 1;", 1, 15);
-            fault("file 0 if kind <" + blank + "= 1;", 1, 17);
-            fault("file 1" + blank + "1;", 1, 7);
-            fault(blank, 0, -1);
+            Texts.fine("file" + blank + "0;");
+            Texts.fine(blank + "file 0 " + blank + "if kind" + blank + "==" + blank + "(1);" + blank);
+            Texts.fault("fi" + blank + "le 0;", 1, 0);
+            Texts.fault("file 0 if kind =" + blank + "= 1;", 1, 15);
+            Texts.fault("file 0 if kind <" + blank + "= 1;", 1, 17);
+            Texts.fault("file 1" + blank + "1;", 1, 7);
+            Texts.fault(blank, 0, -1);
         }
-        fine("file0if(kind)+1*2-3==4and 1<2or 1!=2;after0if 1<=2;");
-        fault("file0if(kind)==4andkind<2;", 1, 16);
+        Texts.fine("file0if(kind)+1*2-3==4and 1<2or 1!=2;after0if 1<=2;");
+        Texts.fault("file0if(kind)==4andkind<2;", 1, 16);
     }
 
     // "all else, is no TOKEN"
@@ -311,21 +297,21 @@ final class TextEdgeTest {
             boolean letter = b >= 'a' && b <= 'z';
             boolean digit = b >= '0' && b <= '9';
             if (letter) {
-                fault("file" + one + " 0;", 1, 0);
+                Texts.fault("file" + one + " 0;", 1, 0);
             } else if (digit) {
-                fault("file 0" + one + ";", b <= '5' ? 0 : 5, b <= '5' ? -1 : 5);
+                Texts.fault("file 0" + one + ";", b <= '5' ? 0 : 5, b <= '5' ? -1 : 5);
             } else if (blanksAndSigns.indexOf(b) < 0) {
-                fault("file 0;" + one, 1, 7);
-                fault("file 0 if kind " + one + " 1;", 1, 15);
-                fault("file 0 if kind" + one + "(1);", 1, 14);
-                fault("file" + one + "0;", 1, 4);
+                Texts.fault("file 0;" + one, 1, 7);
+                Texts.fault("file 0 if kind " + one + " 1;", 1, 15);
+                Texts.fault("file 0 if kind" + one + "(1);", 1, 14);
+                Texts.fault("file" + one + "0;", 1, 4);
                 // neither a part of a word nor of an INT
-                fault("file 0" + one + "0;", 1, 6);
-                fault("file 0 if ki" + one + "nd == 1;", 1, 10);
+                Texts.fault("file 0" + one + "0;", 1, 6);
+                Texts.fault("file 0 if ki" + one + "nd == 1;", 1, 10);
             } else if (one.isBlank()) {
-                fine("file 0;" + one);
+                Texts.fine("file 0;" + one);
             } else {
-                fault("file 0;" + one, 1, 7);
+                Texts.fault("file 0;" + one, 1, 7);
             }
         }
     }
@@ -336,70 +322,70 @@ final class TextEdgeTest {
         for (String word : words) {
             for (int letters = 1; word.length() + letters <= 20; letters++) {
                 String more = "a".repeat(letters);
-                fault("file 0 if " + word + more + " == 1;", 1, 10);
-                fault("file 0 if " + more + word + " == 1;", 1, 10);
-                fault(word + more + " 0;", 1, 0);
-                fault(more + word + " 0;", 1, 0);
+                Texts.fault("file 0 if " + word + more + " == 1;", 1, 10);
+                Texts.fault("file 0 if " + more + word + " == 1;", 1, 10);
+                Texts.fault(word + more + " 0;", 1, 0);
+                Texts.fault(more + word + " 0;", 1, 0);
             }
-            fault("file 0 if " + word.substring(0, word.length() - 1) + " == 1;", 1, 10);
+            Texts.fault("file 0 if " + word.substring(0, word.length() - 1) + " == 1;", 1, 10);
         }
-        fault("filefile 0;", 1, 0);
-        fault("filefilef 0;", 1, 0);
-        fault("file 0 ifkind == 1;", 1, 7);
-        fault("file 0 if kindkindkind == 1;", 1, 10);
-        fault("file 0 if kind == 1 andand 1 == 1;", 1, 20);
+        Texts.fault("filefile 0;", 1, 0);
+        Texts.fault("filefilef 0;", 1, 0);
+        Texts.fault("file 0 ifkind == 1;", 1, 7);
+        Texts.fault("file 0 if kindkindkind == 1;", 1, 10);
+        Texts.fault("file 0 if kind == 1 andand 1 == 1;", 1, 20);
         // eight letters more wind round what has room for eight
-        fault("file 0 if aaaaaaaakind == 1;", 1, 10);
-        fault("file 0 if kindaaaaaaaa == 1;", 1, 10);
-        fault("file 0 if" + "a".repeat(64) + " 1 == 1;", 1, 7);
+        Texts.fault("file 0 if aaaaaaaakind == 1;", 1, 10);
+        Texts.fault("file 0 if kindaaaaaaaa == 1;", 1, 10);
+        Texts.fault("file 0 if" + "a".repeat(64) + " 1 == 1;", 1, 7);
     }
 
     // "INTS (1 to 4 digits)"; "A longer one .. is no TOKEN"
     private static void longestInts() {
-        fine("file 5;");
-        fine("file 05;");
-        fine("file 005;");
-        fine("file 0005;");
-        fault("file 00005;", 1, 5);
-        fault("file 000005;", 1, 5);
-        fine("file 0 if 9999 == 9999;");
-        fault("file 0 if 10000 == 9999;", 1, 10);
-        fault("file 0 if 9999 == 10000;", 1, 18);
-        fault("file 0 if 00000 == 9999;", 1, 10);
-        fault("file 9999;", 5, 5);
-        fault("file 99999;", 1, 5);
-        fine("after 0003 if 1 == 1;");
-        fault("after 00003 if 1 == 1;", 1, 6);
+        Texts.fine("file 5;");
+        Texts.fine("file 05;");
+        Texts.fine("file 005;");
+        Texts.fine("file 0005;");
+        Texts.fault("file 00005;", 1, 5);
+        Texts.fault("file 000005;", 1, 5);
+        Texts.fine("file 0 if 9999 == 9999;");
+        Texts.fault("file 0 if 10000 == 9999;", 1, 10);
+        Texts.fault("file 0 if 9999 == 10000;", 1, 18);
+        Texts.fault("file 0 if 00000 == 9999;", 1, 10);
+        Texts.fault("file 9999;", 5, 5);
+        Texts.fault("file 99999;", 1, 5);
+        Texts.fine("after 0003 if 1 == 1;");
+        Texts.fault("after 00003 if 1 == 1;", 1, 6);
         // what wraps to a small number is no INT either: 2 to the 32, and to the 64
-        fault("file 4294967296;", 1, 5);
-        fault("file 18446744073709551616;", 1, 5);
-        holds("9999 == 9998 + 1", true);
-        holds("0009 == 9", true);
-        holds("0100 == 100", true);
-        fine("file 0 if 1234==1234and 5==1;");
+        Texts.fault("file 4294967296;", 1, 5);
+        Texts.fault("file 18446744073709551616;", 1, 5);
+        Texts.holds("9999 == 9998 + 1", true);
+        Texts.holds("0009 == 9", true);
+        Texts.holds("0100 == 100", true);
+        Texts.fine("file 0 if 1234==1234and 5==1;");
     }
 
     // "SIGNS ; + - * == != < <= ( )", the longest that can be
     private static void longestSigns() {
-        holds("1<=1", true);
-        holds("1<1", false);
-        holds("1<(1)", false);
-        fault("file 0 if 1<==1;", 1, 12 + 1);
-        fault("file 0 if 1===1;", 1, 12 + 1);
-        fault("file 0 if 1!==1;", 1, 12 + 1);
-        fault("file 0 if 1<<=1;", 1, 12);
-        fault("file 0 if 1=1;", 1, 11);
-        fault("file 0 if 1!1;", 1, 11);
-        fault("file 0 if 1!", 1, 11);
-        fault("file 0 if 1=", 1, 11);
-        fault("file 0 if 1=<1;", 1, 11);
-        fault("file 0 if 1>=1;", 1, 11);
-        fault("file 0 if 1=!1;", 1, 11);
-        fault("file 0 if !1 == 1;", 1, 10);
-        fault("file 0 if 1 <> 1;", 1, 13);
-        fault("file 0 if 1 == 1 && 1 == 1;", 1, 17);
-        fault("file 0 if 4 / 2 == 2;", 1, 12);
-        fault("file 0, file 0;", 1, 6);
+        Texts.holds("1<=1", true);
+        Texts.holds("1<1", false);
+        Texts.holds("1<(1)", false);
+        Texts.fault("file 0 if 1<==1;", 1, 12 + 1);
+        Texts.fault("file 0 if 1===1;", 1, 12 + 1);
+        Texts.fault("file 0 if 1!==1;", 1, 12 + 1);
+        Texts.fault("file 0 if 1<<=1;", 1, 12);
+        Texts.fault("file 0 if 1=1;", 1, 11);
+        Texts.fault("file 0 if 1!1;", 1, 11);
+        Texts.fault("file 0 if 1!", 1, 11);
+        Texts.fault("file 0 if 1=", 1, 11);
+        Texts.fault("file 0 if 1=<1;", 1, 11);
+        Texts.fault("file 0 if 1>=1;", 1, 11);
+        Texts.fault("file 0 if 1=!1;", 1, 11);
+        Texts.fault("file 0 if !1 == 1;", 1, 10);
+        Texts.fault("file 0 if 1 <> 1;", 1, 13);
+        Texts.fault("file 0 if 1 == 1 && 1 == 1;", 1, 17);
+        Texts.fault("file 0 if 4 / 2 == 2;", 1, 12);
+        Texts.fault("file 0, file 0;", 1, 6);
     }
 
     // "(a byte; the text's end: its length)": every text that ends too soon
@@ -408,14 +394,14 @@ final class TextEdgeTest {
         for (int length = 1; length < text.length(); length++) {
             String part = text.substring(0, length);
             int cutToken = cutToken(part);
-            fault(part, 1, cutToken < 0 ? length : cutToken);
-            fault(part + "  ", 1, cutToken < 0 ? length + 2 : cutToken);
+            Texts.fault(part, 1, cutToken < 0 ? length : cutToken);
+            Texts.fault(part + "  ", 1, cutToken < 0 ? length + 2 : cutToken);
         }
-        fine(text);
-        fine("");
-        fault("after 0 if 1 == 1; after", 1, 24);
-        fault("after 0 if 1 == 1; after 0", 1, 26);
-        fault("after 0 if 1 == 1; after 0 if", 1, 29);
+        Texts.fine(text);
+        Texts.fine("");
+        Texts.fault("after 0 if 1 == 1; after", 1, 24);
+        Texts.fault("after 0 if 1 == 1; after 0", 1, 26);
+        Texts.fault("after 0 if 1 == 1; after 0 if", 1, 29);
     }
 
     /** Where a WORD that is not whole begins, or half a sign; -1 if the last token is a good one. */
@@ -444,23 +430,23 @@ final class TextEdgeTest {
         Check.due("400 tokens", Check.read(x, 0, sums + "+1;"), 0);
         Check.due("two rules", x.count(2), 2);
         Check.due("that answer", x.answer(0, 0, 0), 0);
-        fault(sums + "+1+1;", 2, sums.length() + 3);
-        fault(sums + "+1;file 0;", 2, sums.length() + 3);
-        fault(sums + "+1;\n after", 2, sums.length() + 5);
+        Texts.fault(sums + "+1+1;", 2, sums.length() + 3);
+        Texts.fault(sums + "+1;file 0;", 2, sums.length() + 3);
+        Texts.fault(sums + "+1;\n after", 2, sums.length() + 5);
         // 399 tokens and no end: the text's end is no token
-        fault(sums + "+1", 1, sums.length() + 2);
-        fault(sums + "+1+", 1, sums.length() + 3);
-        fault(sums + "+1+1", 2, sums.length() + 3);
+        Texts.fault(sums + "+1", 1, sums.length() + 2);
+        Texts.fault(sums + "+1+", 1, sums.length() + 3);
+        Texts.fault(sums + "+1+1", 2, sums.length() + 3);
         // blanks behind the 400th are none
-        fine(sums + "+1;" + " ".repeat(100));
+        Texts.fine(sums + "+1;" + " ".repeat(100));
         // 398 tokens in nearly all the bytes that there can be
         String wide = "file 0 if 1<1" + "+     1234".repeat(196);
-        fault(wide + "+1;", 2, wide.length() + 2);
-        fine(wide + ";");
+        Texts.fault(wide + "+1;", 2, wide.length() + 2);
+        Texts.fine(wide + ";");
         // brackets, words, VARS are tokens like others
         String units = "file 0;file 0 if kind<(1)" + "*(1)".repeat(97);
-        fine(units + ";");
-        fault(units + "+1;", 2, units.length() + 1);
+        Texts.fine(units + ";");
+        Texts.fault(units + "+1;", 2, units.length() + 1);
     }
 
     // "a 21st RULE (at its first TOKEN)"
@@ -474,82 +460,82 @@ final class TextEdgeTest {
         Check.due("the 20th counts", x.answer(0, 0, 0), -2);
         Check.due("20 after rules", Check.read(x, 1, "after 0 if 1 == 1;".repeat(19) + "file 1;"), 0);
         Check.due("its file", x.answer(1, 0, 0), 1);
-        fault("file 0;".repeat(20) + "file 0;", 2, 140);
-        fault("file 0;".repeat(20) + "after 0 if 1 == 1;", 2, 140);
-        fault("after 0 if 1 == 1;".repeat(20) + "\tfile", 2, 361);
-        fault("file 0;".repeat(20) + ";", 1, 140);
-        fault("file 0;".repeat(20) + "files", 1, 140);
-        fault("file 0;".repeat(20) + "0", 1, 140);
-        fault("file 0;".repeat(20) + "if", 1, 140);
-        fault("file 0;".repeat(20) + "file ?", 2, 140);
-        fault("file 0;".repeat(19) + "file 0 if 1", 1, 144);
+        Texts.fault("file 0;".repeat(20) + "file 0;", 2, 140);
+        Texts.fault("file 0;".repeat(20) + "after 0 if 1 == 1;", 2, 140);
+        Texts.fault("after 0 if 1 == 1;".repeat(20) + "\tfile", 2, 361);
+        Texts.fault("file 0;".repeat(20) + ";", 1, 140);
+        Texts.fault("file 0;".repeat(20) + "files", 1, 140);
+        Texts.fault("file 0;".repeat(20) + "0", 1, 140);
+        Texts.fault("file 0;".repeat(20) + "if", 1, 140);
+        Texts.fault("file 0;".repeat(20) + "file ?", 2, 140);
+        Texts.fault("file 0;".repeat(19) + "file 0 if 1", 1, 144);
     }
 
     // "a 7th ( within one another (at it)"
     private static void brackets6() {
-        holds("((((((3)))))) == 3", true);
-        fault("file 0 if (((((((3))))))) == 3;", 2, 16);
-        fault("file 0 if 3 == (((((((3)))))));", 2, 21);
-        fault("file 0 if ((((((1*(3))))))) == 3;", 2, 18);
+        Texts.holds("((((((3)))))) == 3", true);
+        Texts.fault("file 0 if (((((((3))))))) == 3;", 2, 16);
+        Texts.fault("file 0 if 3 == (((((((3)))))));", 2, 21);
+        Texts.fault("file 0 if ((((((1*(3))))))) == 3;", 2, 18);
         // those that are closed count no more: on the other side, in another REL, in another RULE
-        holds("((((((3)))))) == ((((((3)))))) and ((((((1)))))) + ((((((2)))))) == ((((((3))))))", true);
-        fine("file 0 if ((((((3)))))) == 3;".repeat(5));
-        holds("(((((1 + (2)) + (3)) + (4)) + (5)) + (6)) == 21", true);
-        holds("(1)+(2)+(3)+(4)+(5)+(6)+(7)+(8) == 36", true);
-        fault("file 0 if ((((((1)+(2)))+(((1)))+((((1", 2, 36);
-        fault("file 0 if ((((((1", 1, 17);
-        fault("file 0 if (((((((", 2, 16);
-        fault("file 0 if ((((((1(", 1, 17);
-        fault("file 0 if ((((((;", 1, 16);
+        Texts.holds("((((((3)))))) == ((((((3)))))) and ((((((1)))))) + ((((((2)))))) == ((((((3))))))", true);
+        Texts.fine("file 0 if ((((((3)))))) == 3;".repeat(5));
+        Texts.holds("(((((1 + (2)) + (3)) + (4)) + (5)) + (6)) == 21", true);
+        Texts.holds("(1)+(2)+(3)+(4)+(5)+(6)+(7)+(8) == 36", true);
+        Texts.fault("file 0 if ((((((1)+(2)))+(((1)))+((((1", 2, 36);
+        Texts.fault("file 0 if ((((((1", 1, 17);
+        Texts.fault("file 0 if (((((((", 2, 16);
+        Texts.fault("file 0 if ((((((1(", 1, 17);
+        Texts.fault("file 0 if ((((((;", 1, 16);
     }
 
     // "FAULTS, the first by its place"
     private static void firstByItsPlace() {
-        fault("file ? 0; ?", 1, 5);
+        Texts.fault("file ? 0; ?", 1, 5);
         // ROOM ahead of SYNTAX
-        fault("file 0;".repeat(20) + "file ? ; ?", 2, 140);
-        fault("file 0 if ((((((( ?", 2, 16);
+        Texts.fault("file 0;".repeat(20) + "file ? ; ?", 2, 140);
+        Texts.fault("file 0 if ((((((( ?", 2, 16);
         // SYNTAX ahead of ROOM
-        fault("? " + "file 0;".repeat(21), 1, 0);
-        fault("file 0;".repeat(19) + "file 0" + "file 0;", 1, 139);
-        fault("file 0 if kind kind == (((((((1", 1, 15);
+        Texts.fault("? " + "file 0;".repeat(21), 1, 0);
+        Texts.fault("file 0;".repeat(19) + "file 0" + "file 0;", 1, 139);
+        Texts.fault("file 0 if kind kind == (((((((1", 1, 15);
         // one ROOM ahead of the other
-        fault("file 0;".repeat(19) + "file 0 if (((((((1))))))) == 1; file 0;", 2, 133 + 16);
-        fault("file 0;".repeat(20) + "file 0 if (((((((1))))))) == 1;", 2, 140);
+        Texts.fault("file 0;".repeat(19) + "file 0 if (((((((1))))))) == 1; file 0;", 2, 133 + 16);
+        Texts.fault("file 0;".repeat(20) + "file 0 if (((((((1))))))) == 1;", 2, 140);
     }
 
     // "of one place the least"
     private static void ofOnePlaceTheLeast() {
         // the 401st token is also one with which no text goes on
         String full = "file 0 if 1<1" + "+1".repeat(197);
-        fault(full + ";", 2, full.length());
+        Texts.fault(full + ";", 2, full.length());
         String[] others = {"if", "1", "kind", "(", "file", "filefilef", "12345", "?", "=", "<", "=="};
         for (String other : others) {
-            fault(full + " " + other, 1, full.length() + 1);
+            Texts.fault(full + " " + other, 1, full.length() + 1);
         }
         String open = "file 0 if 1<(1" + "+1".repeat(196) + "+";
-        fault(open + "(", 2, open.length());
-        fault(open + ")", 1, open.length());
+        Texts.fault(open + "(", 2, open.length());
+        Texts.fault(open + ")", 1, open.length());
         // the 21st rule's first token, and the 7th bracket's
-        fault("file 0;".repeat(20) + "fil", 1, 140);
-        fault("file 0 if ((((((1 (", 1, 18);
+        Texts.fault("file 0;".repeat(20) + "fil", 1, 140);
+        Texts.fault("file 0 if ((((((1 (", 1, 18);
     }
 
     // "If there is none, likewise: 5 WRONG"
     private static void wrongIfNoOther() {
-        fault("file 6; ?", 1, 8);
-        fault("file 6", 1, 6);
-        fault("file 6; after 4;", 1, 15);
-        fault("file 6;" + "file 0;".repeat(20), 2, 140);
-        fault("file 6; file 0 if (((((((1", 2, 24);
-        fault("file 6; file 7;", 5, 5);
-        fault("file 0; file 7; file 6;", 5, 13);
-        fault("after 9 if 1 == 1; file 9;", 5, 6);
-        fault("file 9; after 9 if 1 == 1;", 5, 5);
-        fault("file 0;".repeat(19) + "file 6;", 5, 138);
+        Texts.fault("file 6; ?", 1, 8);
+        Texts.fault("file 6", 1, 6);
+        Texts.fault("file 6; after 4;", 1, 15);
+        Texts.fault("file 6;" + "file 0;".repeat(20), 2, 140);
+        Texts.fault("file 6; file 0 if (((((((1", 2, 24);
+        Texts.fault("file 6; file 7;", 5, 5);
+        Texts.fault("file 0; file 7; file 6;", 5, 13);
+        Texts.fault("after 9 if 1 == 1; file 9;", 5, 6);
+        Texts.fault("file 9; after 9 if 1 == 1;", 5, 5);
+        Texts.fault("file 0;".repeat(19) + "file 6;", 5, 138);
         String full = "file 6 if 1<1" + "+1".repeat(196) + ";";
-        fault(full, 5, 5);
-        fault(full + "file 0", 2, full.length() + 5);
+        Texts.fault(full, 5, 5);
+        Texts.fault(full + "file 0", 2, full.length() + 5);
     }
 
     // "at the INT behind file: above 5"
@@ -564,12 +550,12 @@ final class TextEdgeTest {
             Check.due("answer", x.answer(0, 0, 0), file);
         }
         for (int file = 6; file <= 12; file++) {
-            fault("file " + file + ";", 5, 5);
-            fault("file 0;  file " + file + " if 1 == 1;", 5, 14);
+            Texts.fault("file " + file + ";", 5, 5);
+            Texts.fault("file 0;  file " + file + " if 1 == 1;", 5, 14);
         }
-        fault("file 0006;", 5, 5);
+        Texts.fault("file 0006;", 5, 5);
         // only the INT behind file
-        fine("file 5 if 6 == 9999;");
+        Texts.fine("file 5 if 6 == 9999;");
     }
 
     // "behind after: above 3"
@@ -585,55 +571,47 @@ final class TextEdgeTest {
             Check.due("no longer", x.state(0, 44, 0), 2);
         }
         for (int kind = 4; kind <= 12; kind++) {
-            fault("after " + kind + " if 1 == 1;", 5, 6);
+            Texts.fault("after " + kind + " if 1 == 1;", 5, 6);
         }
-        fault("after 0004 if 1 == 1;", 5, 6);
-        fault("after 9999 if 1 == 1;", 5, 6);
-        fine("after 3 if 4 == 9999;");
-    }
-
-    private static void holds(String condition, boolean want) {
-        BootHall x = new BootHall();
-        x.file(1, -1);
-        x.machine(3, 7, 99);
-        Check.due("read of " + condition, Check.read(x, 0, "file 0 if " + condition + ";"), 0);
-        Check.due(condition, x.answer(0, 0, 7), want ? 0 : -1);
+        Texts.fault("after 0004 if 1 == 1;", 5, 6);
+        Texts.fault("after 9999 if 1 == 1;", 5, 6);
+        Texts.fine("after 3 if 4 == 9999;");
     }
 
     // "Ints of 32 bits that wrap"
     private static void intsWrap() {
-        holds(MOST + " + 1 < 0", true);
-        holds(MOST + " + 1 == " + LEAST, true);
-        holds(LEAST + " < 0", true);
-        holds(LEAST + " - 1 == " + MOST, true);
-        holds("0 < " + LEAST + " - 1", true);
-        holds("0 - " + LEAST + " == " + LEAST, true);
-        holds(MOST + " * 2 == 0 - 2", true);
-        holds(MOST + " * " + MOST + " == 1", true);
-        holds(LEAST + " * 2 == 0", true);
-        holds(LEAST + " + " + LEAST + " == 0", true);
-        holds("256 * 256 * 256 * 256 == 0", true);
-        holds("9999 * 9999 * 9999 * 9999 == 9999 * 9999 * 9999 * 9999", true);
+        Texts.holds(MOST + " + 1 < 0", true);
+        Texts.holds(MOST + " + 1 == " + LEAST, true);
+        Texts.holds(LEAST + " < 0", true);
+        Texts.holds(LEAST + " - 1 == " + MOST, true);
+        Texts.holds("0 < " + LEAST + " - 1", true);
+        Texts.holds("0 - " + LEAST + " == " + LEAST, true);
+        Texts.holds(MOST + " * 2 == 0 - 2", true);
+        Texts.holds(MOST + " * " + MOST + " == 1", true);
+        Texts.holds(LEAST + " * 2 == 0", true);
+        Texts.holds(LEAST + " + " + LEAST + " == 0", true);
+        Texts.holds("256 * 256 * 256 * 256 == 0", true);
+        Texts.holds("9999 * 9999 * 9999 * 9999 == 9999 * 9999 * 9999 * 9999", true);
         // 999,700,029,999, which is 233 times 2 to the 32 less 1,027,349,969
-        holds("9999 * 9999 * 9999 < 0", true);
-        holds("9999 * 9999 * 9999 == 0 - (1027 * 1000 * 1000 + 349 * 1000 + 969)", true);
+        Texts.holds("9999 * 9999 * 9999 < 0", true);
+        Texts.holds("9999 * 9999 * 9999 == 0 - (1027 * 1000 * 1000 + 349 * 1000 + 969)", true);
     }
 
     /** A comparison by a difference that wraps would be wrong here. */
     private static void comparesWithoutWrap() {
-        holds(LEAST + " < " + MOST, true);
-        holds(MOST + " < " + LEAST, false);
-        holds(LEAST + " <= " + MOST, true);
-        holds(MOST + " <= " + LEAST, false);
-        holds(LEAST + " == " + MOST, false);
-        holds(LEAST + " != " + MOST, true);
-        holds(LEAST + " < 1", true);
-        holds("0 - 2 < " + MOST, true);
-        holds(MOST + " < 0 - 2", false);
-        holds(MOST + " <= " + MOST, true);
-        holds(MOST + " < " + MOST, false);
-        holds("1 <= 1 - 1", false);
-        holds("1 - 1 <= 1", true);
+        Texts.holds(LEAST + " < " + MOST, true);
+        Texts.holds(MOST + " < " + LEAST, false);
+        Texts.holds(LEAST + " <= " + MOST, true);
+        Texts.holds(MOST + " <= " + LEAST, false);
+        Texts.holds(LEAST + " == " + MOST, false);
+        Texts.holds(LEAST + " != " + MOST, true);
+        Texts.holds(LEAST + " < 1", true);
+        Texts.holds("0 - 2 < " + MOST, true);
+        Texts.holds(MOST + " < 0 - 2", false);
+        Texts.holds(MOST + " <= " + MOST, true);
+        Texts.holds(MOST + " < " + MOST, false);
+        Texts.holds("1 <= 1 - 1", false);
+        Texts.holds("1 - 1 <= 1", true);
     }
 
     // "E: PART {('+' | '-') PART}. PART: UNIT {'*' UNIT}.", "COND: ALL {'or' ALL}. ALL: REL {'and' REL}."
@@ -657,20 +635,20 @@ final class TextEdgeTest {
                 boolean b = (bits & 2) != 0;
                 boolean c = (bits & 4) != 0;
                 String[] each = {rel.formatted(a ? 1 : 0), rel.formatted(b ? 1 : 0), rel.formatted(c ? 1 : 0)};
-                holds(each[0] + " or " + each[1] + " and " + each[2], a || b && c);
-                holds(each[0] + " and " + each[1] + " or " + each[2], a && b || c);
-                holds(each[0] + " and " + each[1] + " and " + each[2], a && b && c);
-                holds(each[0] + " or " + each[1] + " or " + each[2], a || b || c);
-                holds("1 == 1 and " + each[0] + " and 1 != 2 and " + each[1] + " and 1 < 2 or 2 < 1 and " + each[2], a && b);
+                Texts.holds(each[0] + " or " + each[1] + " and " + each[2], a || b && c);
+                Texts.holds(each[0] + " and " + each[1] + " or " + each[2], a && b || c);
+                Texts.holds(each[0] + " and " + each[1] + " and " + each[2], a && b && c);
+                Texts.holds(each[0] + " or " + each[1] + " or " + each[2], a || b || c);
+                Texts.holds("1 == 1 and " + each[0] + " and 1 != 2 and " + each[1] + " and 1 < 2 or 2 < 1 and " + each[2], a && b);
             }
         }
     }
 
     private static void relations(String left, int a, String right, int b) {
-        holds(left + " == " + right, a == b);
-        holds(left + " != " + right, a != b);
-        holds(left + " < " + right, a < b);
-        holds(left + " <= " + right, a <= b);
+        Texts.holds(left + " == " + right, a == b);
+        Texts.holds(left + " != " + right, a != b);
+        Texts.holds(left + " < " + right, a < b);
+        Texts.holds(left + " <= " + right, a <= b);
     }
 
     private static int math(int a, String sign, int b) {

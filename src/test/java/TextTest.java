@@ -66,91 +66,80 @@ final class TextTest {
         Check.due("the old text answers still", x.answer(0, 0, 0), 1);
     }
 
-    private static void fault(String text, int number, int place) {
-        BootHall x = new BootHall();
-        Check.due("read of '" + text + "'", Check.read(x, 0, text), number);
-        Check.due("place of '" + text + "'", x.place(), place);
-        Check.due("rules of '" + text + "'", number == 0 || x.count(2) == 0, true);
-    }
-
-    private static void fine(String text) {
-        fault(text, 0, -1);
-    }
-
     private static void tokens() {
-        fine("");
-        fine(" \t\n\r");
-        fine("file0;");
-        fine("file\t0\n;\r");
-        fine("file 0if kind==1;");
-        fine("file 0005;");
-        fault("file 00005;", 1, 5);
-        fault("file 12345", 1, 5);
-        fine("file 0 if 9999<9999;");
-        fault("file 0 if 1 < 10000;", 1, 14);
-        fault("filefile 0;", 1, 0);
-        fault("abcdefghi", 1, 0);
-        fault("file 0 if kindkindkind == 1;", 1, 10);
-        fault("file 0 if xxxxkind == 1;", 1, 10);
-        fault("file 0 if kinds == 1;", 1, 10);
-        fault("File 0;", 1, 0);
-        fault("\u0000file 0;", 1, 0);
-        fault("file 0;\u00ff", 1, 7);
-        fault("file\u000b0;", 1, 4);
-        fault("file 0;.", 1, 7);
-        fault("file 0 if kind = 1;", 1, 15);
-        fault("file 0 if kind ! 1;", 1, 15);
-        fault("file 0 if kind === 1;", 1, 17);
-        fault("file 0 if kind <== 1;", 1, 17);
-        fault("file 0 if kind =! 1;", 1, 15);
-        fault("file 0 if kind > 1;", 1, 15);
-        fault("file 0 if kind == -1;", 1, 18);
-        fault("file 0 if kind < = 1;", 1, 17);
-        fine("file 0 if kind<=1;");
-        fine("file 0 if kind!=1;");
-        fault("file 0 if kind == 1 =", 1, 20);
-        fault("file 0 if kind !", 1, 15);
+        Texts.fine("");
+        Texts.fine(" \t\n\r");
+        Texts.fine("file0;");
+        Texts.fine("file\t0\n;\r");
+        Texts.fine("file 0if kind==1;");
+        Texts.fine("file 0005;");
+        Texts.fault("file 00005;", 1, 5);
+        Texts.fault("file 12345", 1, 5);
+        Texts.fine("file 0 if 9999<9999;");
+        Texts.fault("file 0 if 1 < 10000;", 1, 14);
+        Texts.fault("filefile 0;", 1, 0);
+        Texts.fault("abcdefghi", 1, 0);
+        Texts.fault("file 0 if kindkindkind == 1;", 1, 10);
+        Texts.fault("file 0 if xxxxkind == 1;", 1, 10);
+        Texts.fault("file 0 if kinds == 1;", 1, 10);
+        Texts.fault("File 0;", 1, 0);
+        Texts.fault("\u0000file 0;", 1, 0);
+        Texts.fault("file 0;\u00ff", 1, 7);
+        Texts.fault("file\u000b0;", 1, 4);
+        Texts.fault("file 0;.", 1, 7);
+        Texts.fault("file 0 if kind = 1;", 1, 15);
+        Texts.fault("file 0 if kind ! 1;", 1, 15);
+        Texts.fault("file 0 if kind === 1;", 1, 17);
+        Texts.fault("file 0 if kind <== 1;", 1, 17);
+        Texts.fault("file 0 if kind =! 1;", 1, 15);
+        Texts.fault("file 0 if kind > 1;", 1, 15);
+        Texts.fault("file 0 if kind == -1;", 1, 18);
+        Texts.fault("file 0 if kind < = 1;", 1, 17);
+        Texts.fine("file 0 if kind<=1;");
+        Texts.fine("file 0 if kind!=1;");
+        Texts.fault("file 0 if kind == 1 =", 1, 20);
+        Texts.fault("file 0 if kind !", 1, 15);
     }
 
     private static void grammar() {
-        fault("file", 1, 4);
-        fault("file  ", 1, 6);
-        fault("file 0", 1, 6);
-        fault("file 0 if", 1, 9);
-        fault("file 0 if;", 1, 9);
-        fault("file 0 if kind;", 1, 14);
-        fault("file 0 if kind == ;", 1, 18);
-        fault("file 0 if kind == 1", 1, 19);
-        fault("file 0 if kind == 1 == 1;", 1, 20);
-        fault("file 0 if (kind == 1);", 1, 16);
-        fault("file 0 if (kind) == 1);", 1, 21);
-        fault("file 0 if (kind;", 1, 15);
-        fault("file 0 if (kind", 1, 15);
-        fault("file 0 if () == 1;", 1, 11);
-        fault("file 0 if kind and 1 == 1;", 1, 15);
-        fault("file 0 if kind == 1 and;", 1, 23);
-        fault("file 0 if kind == 1 or or 1 == 1;", 1, 23);
-        fault("file 0 if kind kind == 1;", 1, 15);
-        fault("file 0 if kind (1) == 1;", 1, 15);
-        fault("file 0 if kind == 1 if 1 == 1;", 1, 20);
-        fault("file if kind == 1;", 1, 5);
-        fault("file kind;", 1, 5);
-        fault("file (0);", 1, 5);
-        fault("file 0 0;", 1, 7);
-        fault(";", 1, 0);
-        fault("file 0;;", 1, 7);
-        fault("if kind == 1;", 1, 0);
-        fault("after 0;", 1, 7);
-        fault("after 0", 1, 7);
-        fault("after;", 1, 5);
-        fault("after 0 file 0;", 1, 8);
-        fine("after 3 if 1 == 1;");
-        fine("file 5;file 4 if kind+place-mark*tries==bad*(begun-tick);after 0 if ((1))<2 or 1<2 and 2<=2;");
-        fault("file 0 if file == 1;", 1, 10);
-        fault("file 0 if and == 1;", 1, 10);
-        fault("file 0 if 1 + + 1 == 2;", 1, 14);
-        fault("file 0 if * 1 == 2;", 1, 10);
-        fault("file 0 if 1 == 2 ) ;", 1, 17);
+        Texts.fault("file", 1, 4);
+        Texts.fault("file  ", 1, 6);
+        Texts.fault("file 0", 1, 6);
+        Texts.fault("file 0 if", 1, 9);
+        Texts.fault("file 0 if;", 1, 9);
+        Texts.fault("file 0 if kind;", 1, 14);
+        Texts.fault("file 0 if kind == ;", 1, 18);
+        Texts.fault("file 0 if kind == 1", 1, 19);
+        Texts.fault("file 0 if kind == 1 == 1;", 1, 20);
+        Texts.fault("file 0 if (kind == 1);", 1, 16);
+        Texts.fault("file 0 if (kind) == 1);", 1, 21);
+        Texts.fault("file 0 if (kind;", 1, 15);
+        Texts.fault("file 0 if (kind", 1, 15);
+        Texts.fault("file 0 if () == 1;", 1, 11);
+        Texts.fault("file 0 if kind and 1 == 1;", 1, 15);
+        Texts.fault("file 0 if kind == 1 and;", 1, 23);
+        Texts.fault("file 0 if kind == 1 or or 1 == 1;", 1, 23);
+        Texts.fault("file 0 if kind kind == 1;", 1, 15);
+        Texts.fault("file 0 if kind (1) == 1;", 1, 15);
+        Texts.fault("file 0 if kind == 1 if 1 == 1;", 1, 20);
+        Texts.fault("file if kind == 1;", 1, 5);
+        Texts.fault("file kind;", 1, 5);
+        Texts.fault("file (0);", 1, 5);
+        Texts.fault("file 0 0;", 1, 7);
+        Texts.fault(";", 1, 0);
+        Texts.fault("file 0;;", 1, 7);
+        Texts.fault("if kind == 1;", 1, 0);
+        Texts.fault("after 0;", 1, 7);
+        Texts.fault("after 0", 1, 7);
+        Texts.fault("after;", 1, 5);
+        Texts.fault("after 0 file 0;", 1, 8);
+        Texts.fine("after 3 if 1 == 1;");
+        Texts.fine("file 5;file 4 if kind+place-mark*tries==bad*(begun-tick);after 0 if ((1))<2 or 1<2 and 2<=2;");
+        Texts.fault("file 0 if file == 1;", 1, 10);
+        Texts.fault("file 0 if and == 1;", 1, 10);
+        Texts.fault("file 0 if 1 + + 1 == 2;", 1, 14);
+        Texts.fault("file 0 if * 1 == 2;", 1, 10);
+        Texts.fault("file 0 if 1 == 2 ) ;", 1, 17);
     }
 
     private static String times(String part, int n) {
@@ -158,90 +147,82 @@ final class TextTest {
     }
 
     private static void room() {
-        fine("file 0 if ((((((1)))))) == 1;");
-        fault("file 0 if (((((((1))))))) == 1;", 2, 16);
-        fine("file 0 if ((((((1)))))) == ((((((1))))));");
-        fine("file 0 if ((((((1))))) + (1)) == 1;");
-        fault("file 0 if ((((((1) + (1))))) + (((((((1)))))) == 1;", 2, 36);
-        fault("file 0 if ((((((1(", 1, 17);
-        fault("file 0 if (((((( ( x", 2, 17);
-        fine(times("file 0;", 20));
-        fault(times("file 0;", 20) + " file", 2, 141);
-        fault(times("file 0;", 20) + "after x", 2, 140);
-        fault(times("file 0;", 20) + "x", 1, 140);
-        fault(times("file 0;", 20) + "12345", 1, 140);
-        fault(times("file 0;", 19) + "after 0 if 1 < 2; file 0;", 2, 151);
+        Texts.fine("file 0 if ((((((1)))))) == 1;");
+        Texts.fault("file 0 if (((((((1))))))) == 1;", 2, 16);
+        Texts.fine("file 0 if ((((((1)))))) == ((((((1))))));");
+        Texts.fine("file 0 if ((((((1))))) + (1)) == 1;");
+        Texts.fault("file 0 if ((((((1) + (1))))) + (((((((1)))))) == 1;", 2, 36);
+        Texts.fault("file 0 if ((((((1(", 1, 17);
+        Texts.fault("file 0 if (((((( ( x", 2, 17);
+        Texts.fine(times("file 0;", 20));
+        Texts.fault(times("file 0;", 20) + " file", 2, 141);
+        Texts.fault(times("file 0;", 20) + "after x", 2, 140);
+        Texts.fault(times("file 0;", 20) + "x", 1, 140);
+        Texts.fault(times("file 0;", 20) + "12345", 1, 140);
+        Texts.fault(times("file 0;", 19) + "after 0 if 1 < 2; file 0;", 2, 151);
         // 6 tokens ahead of the sums, 2 a sum, then a ';'.
         String begin = "file 0 if 1<1";
         String exact = "file 0;" + begin + times("+1", 195) + ";";
-        fine(exact + "  ");
-        fault(exact + " file", 2, exact.length() + 1);
-        fault(exact + " ;", 1, exact.length() + 1);
+        Texts.fine(exact + "  ");
+        Texts.fault(exact + " file", 2, exact.length() + 1);
+        Texts.fault(exact + " ;", 1, exact.length() + 1);
         String full = begin + times("+1", 197);
-        fault(full, 1, full.length());
-        fault(full + ";", 2, full.length());
-        fault(full + "+1;", 2, full.length());
-        fault(full + " x", 1, full.length() + 1);
-        fault(full + " )", 1, full.length() + 1);
-        fault(full + "=", 1, full.length());
-        fault(begin + times("+1", 196) + "; file 0;", 2, begin.length() + 399);
-        fault(begin + times("+1", 196) + "; ;", 1, begin.length() + 394);
+        Texts.fault(full, 1, full.length());
+        Texts.fault(full + ";", 2, full.length());
+        Texts.fault(full + "+1;", 2, full.length());
+        Texts.fault(full + " x", 1, full.length() + 1);
+        Texts.fault(full + " )", 1, full.length() + 1);
+        Texts.fault(full + "=", 1, full.length());
+        Texts.fault(begin + times("+1", 196) + "; file 0;", 2, begin.length() + 399);
+        Texts.fault(begin + times("+1", 196) + "; ;", 1, begin.length() + 394);
         // a WRONG one ahead gives way to any fault of the other kinds.
-        fault("file 6; " + times("file 0;", 20), 2, 8 + 133);
-        fault("file 6; x", 1, 8);
+        Texts.fault("file 6; " + times("file 0;", 20), 2, 8 + 133);
+        Texts.fault("file 6; x", 1, 8);
     }
 
     private static void wrong() {
-        fine("file 5;");
-        fault("file 6;", 5, 5);
-        fault("file 9999;", 5, 5);
-        fine("after 3 if 1 == 1;");
-        fault("after 4 if 1 == 1;", 5, 6);
-        fault("file 0; after 5 if 1 == 1; file 7;", 5, 14);
-        fault("file 0; file  7; after 5 if 1 == 1;", 5, 14);
-        fine("file 0 if 7 < 8;");
-    }
-
-    private static void holds(String condition, boolean want) {
-        BootHall x = new BootHall();
-        x.file(1, -1);
-        x.machine(3, 7, 99);
-        Check.due("read of " + condition, Check.read(x, 0, "file 0 if " + condition + ";"), 0);
-        Check.due(condition, x.answer(0, 0, 7), want ? 0 : -1);
+        Texts.fine("file 5;");
+        Texts.fault("file 6;", 5, 5);
+        Texts.fault("file 9999;", 5, 5);
+        Texts.fine("after 3 if 1 == 1;");
+        Texts.fault("after 4 if 1 == 1;", 5, 6);
+        Texts.fault("file 0; after 5 if 1 == 1; file 7;", 5, 14);
+        Texts.fault("file 0; file  7; after 5 if 1 == 1;", 5, 14);
+        Texts.fine("file 0 if 7 < 8;");
     }
 
     private static void values() {
-        holds("1 + 2 * 3 == 7", true);
-        holds("(1 + 2) * 3 == 9", true);
-        holds("10 - 3 - 2 == 5", true);
-        holds("10 - (3 - 2) == 9", true);
-        holds("2 * 3 + 4 * 5 - 6 == 20", true);
-        holds("1 - 2 < 0", true);
-        holds("0 < 1 - 2", false);
-        holds("1 < 1", false);
-        holds("1 <= 1", true);
-        holds("2 <= 1", false);
-        holds("1 != 2", true);
-        holds("1 != 1", false);
-        holds("1 == 1 or 1 == 1 and 1 == 2", true);
-        holds("1 == 2 and 1 == 1 or 1 == 1", true);
-        holds("1 == 2 and 1 == 1 or 1 == 2 and 1 == 1", false);
-        holds("1 == 1 and 1 == 1 and 1 == 1", true);
-        holds("1 == 1 and 1 == 1 and 1 == 2", false);
-        holds("1 == 2 or 1 == 2 or 1 == 1", true);
-        holds("kind == 3 and place == 7 and mark == 99", true);
-        holds("tick == 7 and begun == 1 and bad == 0", true);
+        Texts.holds("1 + 2 * 3 == 7", true);
+        Texts.holds("(1 + 2) * 3 == 9", true);
+        Texts.holds("10 - 3 - 2 == 5", true);
+        Texts.holds("10 - (3 - 2) == 9", true);
+        Texts.holds("2 * 3 + 4 * 5 - 6 == 20", true);
+        Texts.holds("1 - 2 < 0", true);
+        Texts.holds("0 < 1 - 2", false);
+        Texts.holds("1 < 1", false);
+        Texts.holds("1 <= 1", true);
+        Texts.holds("2 <= 1", false);
+        Texts.holds("1 != 2", true);
+        Texts.holds("1 != 1", false);
+        Texts.holds("1 == 1 or 1 == 1 and 1 == 2", true);
+        Texts.holds("1 == 2 and 1 == 1 or 1 == 1", true);
+        Texts.holds("1 == 2 and 1 == 1 or 1 == 2 and 1 == 1", false);
+        Texts.holds("1 == 1 and 1 == 1 and 1 == 1", true);
+        Texts.holds("1 == 1 and 1 == 1 and 1 == 2", false);
+        Texts.holds("1 == 2 or 1 == 2 or 1 == 1", true);
+        Texts.holds("kind == 3 and place == 7 and mark == 99", true);
+        Texts.holds("tick == 7 and begun == 1 and bad == 0", true);
         // 65536 * 32768 wraps to the least int, 65536 * 65536 to 0.
-        holds("256 * 256 * 256 * 128 < 0", true);
-        holds("256 * 256 * 256 * 256 == 0", true);
-        holds("256 * 256 * 256 * 128 - 1 == 256 * 256 * 256 * 127 + 256 * 256 * 256 - 1", true);
-        holds("0 - 256 * 256 * 256 * 128 < 0", true);
-        holds("1*(2*(3*(4*(5*(6+1)-1)-1)-1)-1)==1*(2*(3*(4*(5*(6+1)-1)-1)-1)-1)", true);
-        holds("1*(2*(3*(4*(5*(6+1)-1)-1)-1)-1)==807", true);
+        Texts.holds("256 * 256 * 256 * 128 < 0", true);
+        Texts.holds("256 * 256 * 256 * 256 == 0", true);
+        Texts.holds("256 * 256 * 256 * 128 - 1 == 256 * 256 * 256 * 127 + 256 * 256 * 256 - 1", true);
+        Texts.holds("0 - 256 * 256 * 256 * 128 < 0", true);
+        Texts.holds("1*(2*(3*(4*(5*(6+1)-1)-1)-1)-1)==1*(2*(3*(4*(5*(6+1)-1)-1)-1)-1)", true);
+        Texts.holds("1*(2*(3*(4*(5*(6+1)-1)-1)-1)-1)==807", true);
         // as deep as both stacks ever get
         String deep = times("1+1*(", 6) + "1+1*2" + times(")", 6);
-        holds("1 == 2 or 1 == 1 and 9 == " + deep, true);
-        holds("1 == 2 or 1 == 1 and 8 == " + deep, false);
-        holds("1 == 2 or 1 == 1 and " + deep + " < 9 + " + deep, true);
+        Texts.holds("1 == 2 or 1 == 1 and 9 == " + deep, true);
+        Texts.holds("1 == 2 or 1 == 1 and 8 == " + deep, false);
+        Texts.holds("1 == 2 or 1 == 1 and " + deep + " < 9 + " + deep, true);
     }
 }
